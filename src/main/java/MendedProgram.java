@@ -58,22 +58,16 @@ public final class MendedProgram {
     private final byte[] tape = new byte[TAPE_BYTES];
     private int tapeBytes;
     private int faultPlace = NONE;
-    private final Code[] functions = new Code[FUNCTIONS];
-    private final Patch[] patches = new Patch[PATCHES];
     private int patchCount;
-    private final World world;
+    private final World world = new World();
     /** What waits() tries out, so that the world itself stays as it is. */
-    private final World trial;
+    private final World trial = new World();
     private int refusedElements;
     private int refusedArguments;
     private int refusedStates;
 
     public MendedProgram() {
-        for (int f = 0; f < FUNCTIONS; f++) {
-            functions[f] = new Code();
-        }
-        world = new World(functions, patches);
-        trial = new World(functions, patches);
+        // all of it stands at first as its fields are made
     }
 
     public int feed(int a, int b, int c, int d, int e) {
@@ -99,7 +93,7 @@ public final class MendedProgram {
         if (reader.fault != 0) {
             return reader.fault - FAULT_LESS;
         }
-        functions[function] = code;
+        world.functions[function] = code;
         return code.count;
     }
 
@@ -114,7 +108,7 @@ public final class MendedProgram {
         if (reader.fault != 0) {
             return reader.fault - FAULT_LESS;
         }
-        patches[patchCount] = read;
+        world.patches[patchCount] = read;
         patchCount++;
         return patchCount - 1;
     }
@@ -258,8 +252,8 @@ public final class MendedProgram {
     }
 
     public int patchOf(int patch, int what) throws NoSuchElementException, IllegalArgumentException {
-        needElement(within(patch, patchCount) && patches[patch] != null);
-        Patch asked = patches[patch];
+        needElement(within(patch, patchCount) && world.patches[patch] != null);
+        Patch asked = world.patches[patch];
         switch (what) {
             case 0: return world.heightOf(patch);
             case 1: return asked.functionBits();
@@ -968,10 +962,10 @@ public final class MendedProgram {
         }
     }
 
-    /** All that TICKS can change; the CODES are shared by every world, for no TICK changes them. */
+    /** All that TICKS can change, and the CODES, which they can't: a copy holds the same ones. */
     private static final class World {
-        final Code[] functions;
-        final Patch[] patchList;
+        final Code[] functions = new Code[FUNCTIONS];
+        final Patch[] patches = new Patch[PATCHES];
         /** Of each DATUM six: itself, then its SHADOWS. */
         final Row[] rows = new Row[DATA * (SHADOWS + 1)];
         final Task[] tasks = new Task[TASKS];
@@ -986,9 +980,10 @@ public final class MendedProgram {
         int traps;
         int patchTraps;
 
-        World(Code[] functions, Patch[] patchList) {
-            this.functions = functions;
-            this.patchList = patchList;
+        World() {
+            for (int f = 0; f < FUNCTIONS; f++) {
+                functions[f] = new Code();
+            }
             for (int r = 0; r < rows.length; r++) {
                 rows[r] = new Row();
             }
@@ -998,6 +993,8 @@ public final class MendedProgram {
         }
 
         void copyFrom(World other) {
+            System.arraycopy(other.functions, 0, functions, 0, FUNCTIONS);
+            System.arraycopy(other.patches, 0, patches, 0, PATCHES);
             for (int r = 0; r < rows.length; r++) {
                 rows[r].copyFrom(other.rows[r]);
             }
@@ -1187,7 +1184,7 @@ public final class MendedProgram {
             if (!within(patch, PATCHES)) {
                 return functions[function];
             }
-            return patchList[patch] == null ? null : patchList[patch].codes[function];
+            return patches[patch] == null ? null : patches[patch].codes[function];
         }
 
         private void perform(Code code) {
@@ -1208,7 +1205,7 @@ public final class MendedProgram {
         }
 
         private boolean has(int patch, int function) {
-            return within(patch, PATCHES) && patchList[patch] != null && patchList[patch].codes[function] != null;
+            return within(patch, PATCHES) && patches[patch] != null && patches[patch].codes[function] != null;
         }
 
         int callee(int t, int function) {
@@ -1244,9 +1241,9 @@ public final class MendedProgram {
         }
 
         int stackUp(int patch) {
-            if (stacked < PATCHES && patchList[patch] != null) {
+            if (stacked < PATCHES && patches[patch] != null) {
                 enabled[patch]++;
-                perform(patchList[patch].begin);
+                perform(patches[patch].begin);
                 stack[stacked] = patch;
                 stacked++;
                 beginTurning(patch, true);
@@ -1298,7 +1295,7 @@ public final class MendedProgram {
                     tasks[t].turned = turningOn;
                 }
             }
-            Patch patch = patchList[turning];
+            Patch patch = patches[turning];
             if (leftToTurn() > 0 || patch == null) {
                 return;
             }
