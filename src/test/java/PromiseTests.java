@@ -209,6 +209,15 @@ public final class PromiseTests {
         x.kill(5);
         due(x.function(0, 4), 1);
 
+        // nothing behind the first n bytes is looked at
+        String[] texts = {"rest 12;", "retx", "ret;", "ret  ;", "take i 5;", "text abc;"};
+        int[] lengths = {6, 3, 3, 4, 7, 7};
+        for (int i = 0; i < texts.length; i++) {
+            MendedProgram y = new MendedProgram();
+            lay(y, texts[i]);
+            due(y.function(0, lengths[i]), -9);
+            due(y.fault(), lengths[i]);
+        }
         codeFault("call", 1, 4);
         codeFault("call ", 1, 5);
         codeFault("call 1", 1, 6);
@@ -539,11 +548,24 @@ public final class PromiseTests {
         due(deed(y, "free 2 0"), 3);
         due(deed(y, "keep 2 3"), 0);
         due(deed(y, "free 2 3"), 0);
+        due(y.shadowOf(2, 3, 0), MISSING);
+        due(y.shadowOf(2, 3, 1), 0);
+        due(y.datumOf(2, 2), 0);
         due(deed(y, "shape 2 b 1"), 2);
         due(deed(y, "shape 2 d 2"), 0);
         due(y.cell(2, NONE, 0), 36);
         // skip: a missing VALUE, a number 0; not a TEXT, nor another number
         String skip = "skip 2;take i 7;take i 8;ret;";
+        MendedProgram u = with("take z 1;skip 1;take z 0;ret;");
+        u.start(0, 0);
+        u.go(3);
+        due(u.number(0), 0);
+        u = with("none;put 0 0;box 0 0;");
+        u.datum(0, T, 1);
+        u.start(0, 0);
+        u.go(3);
+        due(u.task(0, 2), NONE);
+        due(u.told(10), 0);
         for (String value : new String[] {"none", "take i 0", "take z 0", "take d 0"}) {
             MendedProgram v = with(value + ";skip 2;take i 7;");
             v.start(0, 0);
@@ -683,6 +705,16 @@ public final class PromiseTests {
         due(z.cell(0, NONE, 4), 6);
         due(z.cell(0, NONE, 5), 0);
         for (int t = 0; t < 6; t++) due(z.task(t, 6), 0);
+        MendedProgram w = new MendedProgram();
+        w.datum(0, A, 2);
+        w.datum(1, I, 1);
+        w.set(I, 1, 0, 5);
+        patch(w, "func 0{}begin{put 0 0;skip 1;take i 6;take i 7;}done{put 0 1;}");
+        w.move(1, 0, 1, 0);
+        due(w.enable(0), 0);
+        due(w.cell(0, NONE, 0), 0);
+        due(w.cell(0, NONE, 1), 0);
+        due(w.same(0, 0), 2);
     }
 
     private static void p11() {
@@ -796,6 +828,11 @@ public final class PromiseTests {
         due(x.told(8), 2);
         due(x.cell(0, NONE, 0), 2);
         due(x.told(5), 0);
+        x.kill(0);
+        x.kill(5);
+        x.start(1, 0);
+        x.enable(0);
+        due(x.force(), 2);
     }
 
     private static void p14() {
@@ -1078,7 +1115,10 @@ public final class PromiseTests {
         x.enable(1);
         due(x.patchOf(1, 0), 0);
         due(x.patchOf(2, 0), NONE);
-        refused(ELEMENT, () -> x.patchOf(3, 0));
+        due(patch(x, "func 0{ret;ret;}func 11{ret;}"), 3);
+        due(x.patchOf(3, 1), 1 << 11 | 1);
+        due(x.patchOf(3, 3), 3);
+        refused(ELEMENT, () -> x.patchOf(4, 0));
         refused(ELEMENT, () -> x.patchOf(-1, 0));
         refused(ELEMENT, () -> x.patchOf(8, 9));
         refused(ARGUMENT, () -> x.patchOf(0, 5));
@@ -1314,6 +1354,8 @@ public final class PromiseTests {
         due(x.shape(2, N, 2), 0);
         due(x.shape(2, J, 1), 0);
         due(x.shape(2, N, 1), 2);
+        due(x.shape(2, J, 9), 0);
+        due(x.datumOf(2, 1), 9);
         due(x.shape(2, T, 1), 2);
         refused(ELEMENT, () -> x.shape(10, 0, 0));
         refused(ELEMENT, () -> x.shape(-1, 11, 0));
@@ -1349,6 +1391,8 @@ public final class PromiseTests {
         due(x.cell(0, NONE, 1), 7);
         due(x.datumOf(0, 2), 16);
         due(x.keep(0, 1, 1), 3);
+        due(x.shadowOf(0, 1, 1), 0);
+        due(x.told(12), 6);
         x.set(J, 0, 1, 5);
         due(x.cell(0, 4, 1), 7);
         refused(ELEMENT, () -> x.keep(10, 0, 0));
@@ -1483,11 +1527,39 @@ public final class PromiseTests {
         x.start(2, 3);
         x.enable(0);
         due(x.waits(), NONE);
+        // from where each TASK is: its VALUE, what it rests still, whether it is blurred, what is stacked below
+        MendedProgram y = with("take i 1;skip 1;ret;rest 9;", "blur;rest 4;clear;ret;", "call 4;", "", "rest 1;");
+        patch(y, "func 4{rest 6;}");
+        patch(y, "func 0{}");
+        patch(y, "func 2{}");
+        y.start(0, 0);
+        y.step(0);
+        due(y.enable(1), 1);
+        due(y.waits(), 2);
+        y.reverse();
+        due(y.told(3), NONE);
+        y.kill(0);
+        y.start(1, 1);
+        y.go(3);
+        due(y.enable(1), 1);
+        due(y.waits(), 4);
+        y.kill(1);
+        due(y.enable(0), 0);
+        y.start(3, 2);
+        due(y.enable(2), 1);
+        due(y.waits(), 10);
+        y.go(9);
+        due(y.told(3), 2);
+        y.go(1);
+        due(y.told(3), NONE);
     }
 
     private static void p34() {
         MendedProgram x = with("rest 9;", "call 0;");
         due(x.deepest(), NONE);
+        x.start(0, 0);
+        due(x.deepest(), 0);
+        x.kill(0);
         x.start(3, 0);
         due(x.deepest(), 3);
         x.start(1, 1);

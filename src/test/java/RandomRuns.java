@@ -265,7 +265,9 @@ public final class RandomRuns {
         }
 
         int one(int count) {
-            return r.nextInt(25) == 0 ? r.nextInt(count + 4) - 2 : r.nextInt(count);
+            if (r.nextInt(25) > 0) return r.nextInt(count);
+            int[] far = {Integer.MIN_VALUE, Integer.MAX_VALUE, -1 << 16, 1 << 30, count, -1};
+            return r.nextInt(3) == 0 ? far[r.nextInt(far.length)] : r.nextInt(count + 4) - 2;
         }
 
         /** A TASK that is busy, or is not, as the call has use for. */
